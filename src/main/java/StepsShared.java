@@ -347,6 +347,7 @@ public final class StepsShared {
             }
         }
 
+        /** 0 where no byte is: it fits nowhere in a DAY, so that a fault there is told at the length. */
         int signAt(int place) {
             return place >= 0 && place < length ? bytes[place] : 0;
         }
@@ -380,7 +381,6 @@ public final class StepsShared {
 
         private static int headFault(Text text) {
             for (int place = 0; place < HEAD_BYTES; place++) {
-                if (place >= text.size()) return place;
                 if (!fitsHead(text, place)) return place;
             }
             return NONE;

@@ -241,6 +241,15 @@ final class PromiseTest {
         due("kept 1 is gone", x.again(1), LATE);
         x.walk(0, 1);
         x.keep(0);
+        x.walk(1, 1);
+        x.done(1, 0);
+        due("he did", x.errand(0, 4), 1);
+        due("day once more", x.day(), 5);
+        x.walk(0, 1);
+        x.done(0, 0);
+        due("this time she did", x.errand(0, 4), 0);
+        x.undo();
+        x.keep(0);
         Due.tell(x, "V05");
         due("refused day", x.day(), LATE);
         due("at stands", x.at(0), 1);
@@ -503,6 +512,7 @@ final class PromiseTest {
         due("row of 9", x.judge(0, 8, 100000000), BAD);
         due("row most", x.judge(0, 8, Integer.MAX_VALUE), BAD);
         due("row of 8", x.judge(0, 8, 99999999), 0);
+        due("one may", x.judge(0, 1, 1), NONE);
         due("all may", x.judge(0, 2, 12), NONE);
         due("home first", x.judge(0, 2, 1), 0);
         due("noughts ahead", x.judge(0, 3, 12), 0);
@@ -515,6 +525,7 @@ final class PromiseTest {
         x.walk(1, 2);
         due("from where he is", x.judge(1, 3, 210), 0);
         due("from where he is", x.judge(1, 3, 101), NONE);
+        due("home from where he is", x.judge(1, 1, 0), NONE);
         x = Due.dayOf("V9993R0101");
         due("no way", x.judge(0, 2, 12), 1);
         due("8 walks", x.judge(0, 8, 10101010), NONE);
@@ -602,8 +613,9 @@ final class PromiseTest {
         due("all steps, all errands", x.live(), 1);
         Due.tell(x, "V999");
         due("of the day", x.live(), 1);
-        // at HOME he alone could do 1, she could not
         due("who can", Due.dayOf("V0002R0101E151E140").live(), 1);
+        due("hers far, his near", Due.dayOf("V0023R0101R1209E090E251").live(), 0);
+        due("his far, hers near", Due.dayOf("V0023R0101R1209E091E250").live(), 0);
     }
 
     // 20
@@ -644,7 +656,16 @@ final class PromiseTest {
         // one goes on alone when the other is home for good
         x = Due.dayOf("V9992R0101E101E151E161E171");
         due("all his", x.byTurns(1), 18);
-        // an errand that is no more to be reached, or without a way
+        // what going home costs him is not there for her
+        x = Due.dayOf("V0083R0103R0201E191E160E150E220");
+        x.walk(1, 1);
+        due("5 left: she may not go to 1", x.byTurns(0), 2);
+        due("he is there", x.byTurns(1), 9);
+        x = Due.dayOf("V0083R0103R0201E190E161E151E221");
+        x.walk(0, 1);
+        due("she is there", x.byTurns(0), 9);
+        due("5 left: he may not go to 1", x.byTurns(1), 2);
+        // no way
         x = Due.dayOf("V9993R0101E292");
         due("no way", x.byTurns(0), 0);
         // of like ones the least errand: the far one first would leave him the near one
@@ -708,6 +729,7 @@ final class PromiseTest {
         due("n 9", x.ends(0, 9, 0), BAD);
         due("t -1", x.ends(0, 0, -1), BAD);
         due("t 1000", x.ends(0, 0, 1000), BAD);
+        due("t 999", x.ends(0, 8, 999), 0);
         due("none walks", x.ends(4, 0, 0), 16);
         due("none walks for 1", x.ends(4, 0, 1), 0);
         due("1 for 3", x.ends(0, 1, 3), 4);
@@ -715,6 +737,11 @@ final class PromiseTest {
         due("3 for 5", x.ends(0, 3, 5), 0b100 | 0b010);
         due("8 for 8", x.ends(1, 8, 8), 2);
         due("left is nothing", x.ends(0, 4, 12), 1);
+        x = Due.dayOf("V0002R0199E002");
+        due("7 for 693", x.ends(0, 7, 693), 2);
+        x = Due.dayOf("V0005R0199R1299R2399R3436");
+        due("3 for 999", x.ends(0, 3, 999), 16);
+        due("3 for 999, one row", x.ledger(0, 3, 999), 1);
     }
 
     private static void chanceIs(String name, StepsShared x, int tenths, int t, long above, long below) {
