@@ -102,6 +102,9 @@ final class EdgeActsTest {
         due("no loan", x.back(), LATE);
         due("what was kept is gone", x.again(0), LATE);
         due("in both", x.again(1), LATE);
+        x.carry(0, 2);
+        x.done(0, 0);
+        due("this time she did", x.errand(0, 4), 0);
     }
 
     // ======== ACTS
@@ -237,7 +240,10 @@ final class EdgeActsTest {
             due("least of " + n, x.judge(0, n, LEAST), BAD);
             due("most of " + n, x.judge(0, n, MOST), BAD);
         }
-        for (int n : new int[] {0, -1, 9, 10, LEAST, MOST}) due("judge n " + n, x.judge(0, n, 1), BAD);
+        for (int n : new int[] {0, -1, 9, 10, LEAST, MOST}) {
+            due("judge n " + n, x.judge(0, n, 1), BAD);
+            due("judge n " + n + " of nothing", x.judge(0, n, 0), BAD);
+        }
         due("the eighth may not", x.judge(0, 8, 10101011), 7);
         due("the eighth is no place", x.judge(0, 8, 10101012), 7);
     }
@@ -484,6 +490,11 @@ final class EdgeActsTest {
         due("undo done", x.undo(), 1);
         due("not done", x.errand(0, 3), 0);
         due("nobody", x.errand(0, 4), NONE);
+        x.walk(0, 1);
+        due("she may then", x.done(0, 0), 5);
+        due("she did", x.errand(0, 4), 0);
+        x.undo();
+        x.undo();
         due("he may again", x.done(1, 0), 5);
         x.done(1, 1);
         x.undo();
@@ -514,6 +525,7 @@ final class EdgeActsTest {
         slotsTwo();
         slotsNoneKept();
         slotsKeepAll();
+        slotsKeepEightLoans();
         slotsNoActs();
         slotsStayAsKept();
     }
@@ -565,6 +577,8 @@ final class EdgeActsTest {
         x.done(1, 1);
         x.walk(0, 0);
         x.walk(1, 2);
+        x.keep(1);
+        due("he did the other", x.errand(1, 4), 1);
         due("again", x.again(0), 1000);
         due("she", x.at(0), 2);
         due("he", x.at(1), 1);
@@ -577,6 +591,29 @@ final class EdgeActsTest {
         for (int n = 1, left = 1000; n <= 8; n++) {
             left += n % 2 == 0 ? -n - 1 : n + 1;
             due("back " + n, x.back(), left);
+        }
+    }
+
+    /** "LOANS (8 at most": all 8 are kept, and undone to, whatever came in their places. */
+    private static void slotsKeepEightLoans() {
+        for (boolean byUndo : new boolean[] {false, true}) {
+            StepsShared x = Due.dayOf("V9992");
+            for (int n = 1; n <= 8; n++) x.loan(10 * n, false);
+            x.keep(0);
+            x.back();
+            x.loan(99, false);
+            if (byUndo) {
+                x.undo();
+                x.undo();
+            } else {
+                x.again(0);
+            }
+            due("eight", x.about(7), 8);
+            due("owed for them", x.about(8), 10396);
+            for (int n = 1, left = 639; n <= 8; n++) {
+                left += 11 * n;
+                due("back " + n, x.back(), left);
+            }
         }
     }
 

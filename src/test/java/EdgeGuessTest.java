@@ -89,6 +89,15 @@ final class EdgeGuessTest {
         x = Due.dayOf("V0003R0199R1284");
         rows("999 by 8", x, 0, 8, 999, 22, 2);
         rows("999 by 8, elsewhere", x, 1, 8, 999, rowsFrom(1, 8, 999), 1);
+        // rows that cost more than 999 on the way are none of fewer
+        StepsShared line = Due.dayOf("V0006" + LONGEST_LINE);
+        for (int t = 892; t < 990; t++) rows("between 891 and 990", line, t % 6, 8, t, 0, 0);
+        rows("990 by two", line, 0, 2, 990, 1, 1);
+        rows("990 by two from 5", line, 5, 2, 990, 1, 32);
+        // what was asked before leaves nothing behind
+        rows("one for 999 after it", x, 0, 1, 999, 0, 0);
+        rows("none for 990 after it", x, 1, 0, 990, 0, 0);
+        rows("two for 198 after it", x, 0, 2, 198, 1, 1);
     }
 
     private static final int[][] THREE = {{0, 99, 183}, {99, 0, 84}, {183, 84, 0}};

@@ -341,6 +341,11 @@ final class EdgeTextTest {
         x = Due.dayOf("V0006R0599R0101R1201R2301R3401R4501");
         due("five roads are nearer than one", x.far(0, 5), 5);
         due("five roads back", x.far(5, 0), 5);
+        for (int over = 2; over < 6; over++) {
+            x = Due.dayOf(String.format("V0006R0199R0%d01R%d102", over, over));
+            due("by way of " + over, x.far(0, 1), 3);
+            due("back by way of " + over, x.far(1, 0), 3);
+        }
         x = Due.dayOf("V0006R5499R4399R3299R2199R1099");
         due("as far as can be", x.far(0, 5), 495);
         due("as far as can be, back", x.far(5, 0), 495);
@@ -412,6 +417,7 @@ final class EdgeTextTest {
                 due("who can " + k, x.errand(0, 2), k);
                 due("tour " + walker + " " + k, x.tour(walker, 1), can ? 0 : LATE);
                 due("done " + walker + " " + k, x.done(walker, 0), can ? 5 : LATE);
+                due("is done " + walker + " " + k, x.errand(0, 3), can ? 1 : 0);
                 due("who did " + walker + " " + k, x.errand(0, 4), can ? walker : NONE);
             }
         }

@@ -295,6 +295,7 @@ final class RefusalTest {
         }
         for (int n : new int[] {0, -1, 9, LEAST, MOST}) {
             refused("judge n " + n, RefusalTest::amid, x -> x.judge(0, n, 1), BAD);
+            refused("judge n " + n + " row 0", RefusalTest::amid, x -> x.judge(0, n, 0), BAD);
             refused("judge n " + n + " row -1", RefusalTest::amid, x -> x.judge(0, n, -1), BAD);
         }
         for (int row : new int[] {-1, 100, 101, 1000000000, LEAST, MOST}) {
