@@ -115,6 +115,7 @@ final class EdgeActsTest {
         carryTwiceAsMany();
         carryFromOnePlace();
         doneOnce();
+        whoDidEach();
         judgeNoughtAhead();
         judgeOneToEight();
         judgeJustSoMany();
@@ -208,6 +209,25 @@ final class EdgeActsTest {
         due("undone", x.undo(), 4);
         due("once more then", x.done(1, 3), 9);
         due("by him", x.errand(3, 4), 1);
+    }
+
+    /** "who did it (4; NONE)": of each by itself, whoever does the next ones. */
+    private static void whoDidEach() {
+        for (int walker = 0; walker < 2; walker++) {
+            StepsShared x = Due.dayOf("V0002E092E082E072E062E052E042");
+            for (int e = 0; e < 6; e++) {
+                x.done(walker, e);
+                for (int f = 0; f < 6; f++) due("who did " + f + " when " + e + " is done", x.errand(f, 4), f <= e ? walker : NONE);
+            }
+            x.keep(0);
+            x.again(0);
+            for (int e = 0; e < 6; e++) due("who did " + e + ", gone on from", x.errand(e, 4), walker);
+        }
+        StepsShared x = Due.dayOf("V0002E092E082E072E062E052E042");
+        for (int e = 5; e >= 0; e--) x.done(e / 2 % 2, e);
+        for (int e = 0; e < 6; e++) due("who did " + e + " of both's", x.errand(e, 4), e / 2 % 2);
+        for (int i = 0; i < 3; i++) x.undo();
+        for (int e = 0; e < 6; e++) due("who did " + e + " of those left", x.errand(e, 4), e < 3 ? NONE : e / 2 % 2);
     }
 
     /** "told as n figures, the first PLACE first": noughts ahead are HOME. */

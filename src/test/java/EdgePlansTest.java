@@ -330,5 +330,13 @@ final class EdgePlansTest {
         turns("just 10 left for him", x, 0, 9);
         x.loan(1, false);
         turns("9 of 10", x, 0, 0);
+        // his way HOME likewise: 3 of these steps are his, also once he is there
+        x = Due.dayOf("V0083R0103R0202E050E290");
+        x.walk(1, 1);
+        turns("5 left: 2 for her when he is home", x, 5, 0);
+        x.loan(1, true);
+        turns("6 left: 3 for her", x, 5, 0);
+        x.loan(1, true);
+        turns("7 left: 4 for her", x, 14, 0);
     }
 }
